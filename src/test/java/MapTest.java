@@ -77,6 +77,8 @@ public final class MapTest {
         Check.due("27 house", t.centre(false), 3);
         Check.due("27 how far out", t.centre(true), 4);
         Check.due("28 in a row", t.wide(), 7);
+        Check.due("28 asked first", row().wide(), 7);
+        Check.due("28 the lowest house is an end", Check.withRoads(0, 1, 1, 2, 1, 3, 1, 4, 1, 5, 1, 6, 1, 7).wide(), 2);
         for (int w : new int[] {-1, 8, LOW, HIGH}) Check.due("26 others", t.out(w), -1);
         RumourRent u = Check.withRoads(0, 1, 1, 2, 4, 5);
         Check.due("26 in its part", u.out(0), 2);
@@ -286,6 +288,7 @@ public final class MapTest {
         for (int w : new int[] {-1, 8, LOW, HIGH}) Check.due("41 others", t.since(w), -100);
         RumourRent u = row();
         u.heard(7, 0);
+        Check.due("41 asked first", u.since(6), -1);
         Check.due("41 below 0", u.since(0), -7);
         RumourRent v = Check.withRoads(0, 1, 2, 3);
         v.heard(0, 4);
@@ -333,6 +336,10 @@ public final class MapTest {
         Check.due("40 one of three", v.began(0), 1 << 5);
         Check.due("42 one by 0", v.ask(0), -1);
         Check.due("42 three by 1", v.ask(1), 5);
+        RumourRent w = Check.withRoads(0, 1);
+        w.heard(1, 4);
+        Check.due("42 asked first", w.ask(0), 0);
+        Check.due("42 the rest of them", w.began(0), 3);
     }
 
     private static void pack() {
@@ -375,6 +382,16 @@ public final class MapTest {
         packed(withGuests(new int[] {1, 1, 1, 1, 1, 1, 0, 0}, 1, 1, 1, 1, 1, 1, 1), -2);
         packed(withGuests(new int[] {4, 0, 0, 0, 0, 0, 0, 4}, 2, 3, 1, 2), 2, 0, 7, 7, 0);
         packed(withGuests(new int[] {0, 0, 0, 0, 0, 4, 0, 4}, 4, 4), 2, 5, 7);
+        // One way is nothing to the next: guests go, and rooms change.
+        RumourRent u = withGuests(new int[] {1, 2, 3, 4, 0, 0, 0, 0}, 3, 2, 2);
+        packed(u, 2, 2, 3, 3);
+        u.rooms(3, 1);
+        packed(u, -2);
+        u.rooms(4, 2);
+        packed(u, 3, 2, 1, 4);
+        u.pack(-1);
+        u.pack(1);
+        packed(u, 1, 0);
         // Rumours take no rooms from guests.
         RumourRent t = withGuests(new int[] {2, 0, 0, 0, 0, 0, 0, 0}, 2);
         t.rumour(0, 1);

@@ -128,6 +128,8 @@ public final class TextTest {
         faulty("rent 1!;", 1, 6);
         faulty("Rent 1;", 1, 0);
         faulty("rents 1;", 1, 0);
+        for (String more : new String[] {"a", "z", "A", "Z"}) faulty("day 1;rent" + more + " 1;", 1, 6);
+        for (String more : new String[] {"0", "9"}) fine("day 1" + more + ";");
         faulty("ren 1;", 1, 0);
         faulty("rentday;", 1, 0);
         faulty("believesit 1;", 1, 0);

@@ -375,6 +375,9 @@ public final class TownTest {
         Check.due("15 kept", t.ofRumour(0, 2), 1 << 1);
         Check.due("15 X", t.is(1), 15124);
         Check.due("15 one step", t.about(4), 2);
+        t.years(6, 2);
+        Check.due("15 hushed where it isn't kept", t.ofRumour(0, 2), 1 << 1);
+        t.undo();
         // 381: given 1; 24741: given 1 and 1.
         t.years(1, 2);
         Check.due("15 given", t.ofRumour(0, 1), 13);
@@ -462,7 +465,7 @@ public final class TownTest {
             if (i < 30) u.hush(i % 8, 0);
         }
         Check.due("22 full", u.book(-1, 0), 30);
-        Check.due("22 the eldest is gone", u.book(0, 1), 1);
+        for (int i = 0; i < 30; i++) Check.due("22 the eldest is gone", u.book(i, 1), (i + 1) % 8);
         u.undo();
         Check.due("16 the eldest again", u.book(0, 1), 0);
         Check.due("16 as many", u.book(-1, 0), 30);
@@ -760,6 +763,42 @@ public final class TownTest {
         Check.due("50 again", t.image(), 3);
         t.day(5);
         Check.due("51 to the latest", t.back(), 3);
+        imageOfLists();
+    }
+
+    private static void imageOfLists() {
+        RumourRent t = Check.withRoads(0, 1, 1, 2);
+        t.rumour(0, 9);
+        t.rumour(1, 9);
+        t.rooms(6, 4);
+        t.tell(4, 1);
+        t.heard(2, 7);
+        t.pack(3);
+        t.said(4, 1, 2);
+        Check.read(t, "rent house/2;");
+        t.image();
+        t.hush(4, 1);
+        t.undo();
+        t.undo();
+        t.tell(5, 0);
+        t.heard(-1, 0);
+        t.heard(0, 1);
+        t.pack(-1);
+        t.pack(1);
+        t.said(-1, 0, 0);
+        t.said(0, 0, 0);
+        t.back();
+        Check.due("51 book", t.book(-1, 0), 1);
+        Check.due("51 book, house", t.book(0, 1), 4);
+        Check.due("51 book, rumour", t.book(0, 2), 1);
+        Check.due("51 heard, house and day", t.since(0), 5);
+        Check.due("51 guest", t.packed(0), 6);
+        Check.due("51 said", t.whose(), 1);
+        t.said(-1, 0, 0);
+        t.said(5, 0, 3);
+        Check.due("51 another said", t.whose(), 0);
+        t.back();
+        Check.due("51 said again", t.whose(), 1);
     }
 
     private static void about() {
