@@ -491,7 +491,7 @@ public final class RumourRent {
     }
 
     public int colour(int n, int house) {
-        if (!isWithin(n, 1, 4) || !isHouse(house) || !streets.tintFrom(0, n)) {
+        if (!isWithin(n, 1, 4) || !isHouse(house) || !streets.findColours(n)) {
             return NO_SUCH;
         }
         return streets.tints[house];
@@ -531,9 +531,6 @@ public final class RumourRent {
         }
         int upper = streets.waysOpen(a, b);
         int lower = 1 << town.roadCount;
-        if (upper == 0) {
-            lower = 1;
-        }
         for (int i = 0; i < MOST_ROADS && lower > 1 && upper % 2 == 0; i++) {
             upper /= 2;
             lower /= 2;
@@ -1670,7 +1667,11 @@ public final class RumourRent {
             return count;
         }
 
-        boolean tintFrom(int house, int n) {
+        boolean findColours(int n) {
+            return tintFrom(0, n);
+        }
+
+        private boolean tintFrom(int house, int n) {
             if (house >= HOUSES) {
                 return true;
             }

@@ -161,6 +161,10 @@ public final class TextTest {
         faulty("rent 1);", 1, 6);
         faulty("rent ();", 1, 6);
         faulty("rent 1;;", 1, 7);
+        faulty("rent 1<=", 1, 6);
+        faulty("rent 1>=", 1, 6);
+        faulty("rent if 1;2 then 1 else 2 end;", 1, 9);
+        faulty("rent if 1+2 then 1 else 2 end;", 1, 12);
         faulty("rent rent;", 1, 5);
         faulty("rent 1 day;", 1, 7);
         faulty("rent mean 1 2;", 1, 12);

@@ -774,8 +774,8 @@ public final class TownTest {
         t.tell(4, 1);
         t.heard(2, 7);
         t.pack(3);
-        t.said(4, 1, 2);
-        Check.read(t, "rent house/2;");
+        t.said(4, 1, 3);
+        Check.read(t, "rent house/2+number;");
         t.image();
         t.hush(4, 1);
         t.undo();
