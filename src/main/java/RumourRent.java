@@ -1030,7 +1030,15 @@ public final class RumourRent {
             at = 0;
             next();
             for (int i = 0; i <= MOST_CLAUSES && fault == 0 && kind != FINISH; i++) {
-                readClause();
+                int word = kind;
+                int wrong = faultOfClause(word);
+                if (wrong != 0) {
+                    fail(wrong);
+                } else if (word <= W_RENT) {
+                    readLaw(word);
+                } else {
+                    readDeed(word);
+                }
             }
             length = 0;
             return fault == 0;
@@ -1043,19 +1051,14 @@ public final class RumourRent {
             }
         }
 
-        private void readClause() {
-            int word = kind;
+        private int faultOfClause(int word) {
             if (word > W_DAY) {
-                fail(CANNOT_STAND);
-            } else if (word <= W_RENT && into.has(word)) {
-                fail(SECOND_TIME);
-            } else if (into.clauseCount >= MOST_CLAUSES) {
-                fail(TOO_MANY_CLAUSES);
-            } else if (word <= W_RENT) {
-                readLaw(word);
-            } else {
-                readDeed(word);
+                return CANNOT_STAND;
             }
+            if (word <= W_RENT && into.has(word)) {
+                return SECOND_TIME;
+            }
+            return into.clauseCount >= MOST_CLAUSES ? TOO_MANY_CLAUSES : 0;
         }
 
         private void readLaw(int word) {
@@ -1338,7 +1341,7 @@ public final class RumourRent {
                 } else {
                     int right = pop();
                     int left = pop();
-                    push(combined(what, left, right));
+                    push(cut(combined(what, left, right)));
                 }
             }
             return pop();
@@ -1384,14 +1387,14 @@ public final class RumourRent {
             }
         }
 
-        private static int combined(int what, int left, int right) {
+        private static long combined(int what, long left, long right) {
             switch (what) {
                 case S_PLUS:
-                    return cut((long) left + right);
+                    return left + right;
                 case S_MINUS:
-                    return cut((long) left - right);
+                    return left - right;
                 case S_TIMES:
-                    return cut((long) left * right);
+                    return left * right;
                 case S_OVER:
                     return right == 0 ? 0 : left / right;
                 case W_MEAN:
