@@ -1,5 +1,7 @@
+import java.math.BigInteger;
 import java.util.ArrayDeque;
 import java.util.ArrayList;
+import java.util.Arrays;
 import java.util.Deque;
 import java.util.HashMap;
 import java.util.List;
@@ -97,8 +99,8 @@ final class ModelText {
                     if (!isNumber(t)) fail(1, i);
                     else if (!fits(t, p[1], p[2])) fail(2, i);
                     else {
-                        String[] longer = java.util.Arrays.copyOf(clause, clause.length + 1);
-                        longer[clause.length] = new java.math.BigInteger(t).toString();
+                        String[] longer = Arrays.copyOf(clause, clause.length + 1);
+                        longer[clause.length] = new BigInteger(t).toString();
                         clause = longer;
                     }
                     break;
@@ -118,8 +120,6 @@ final class ModelText {
                     }
                 } else if (top.equals("COMPARE")) {
                     if (!Set.of("<", "<=", ">", ">=", "=", "#").contains(t)) fail(1, i);
-                } else if (top.equals("MORE")) {
-                    throw new IllegalStateException();
                 } else if (!top.equals(t)) {
                     fail(1, i);
                 }
@@ -184,8 +184,8 @@ final class ModelText {
     }
 
     private static boolean fits(String number, String lo, String hi) {
-        java.math.BigInteger n = new java.math.BigInteger(number);
-        return n.compareTo(new java.math.BigInteger(lo)) >= 0 && n.compareTo(new java.math.BigInteger(hi)) <= 0;
+        BigInteger n = new BigInteger(number);
+        return n.compareTo(new BigInteger(lo)) >= 0 && n.compareTo(new BigInteger(hi)) <= 0;
     }
 
     private static void push(Deque<String> due, String... then) {
@@ -265,7 +265,7 @@ final class ModelText {
             return asked ? a : b;
         }
         String t = tokens.get(at++);
-        return isNumber(t) ? new java.math.BigInteger(t).longValue() : names.get(t);
+        return isNumber(t) ? new BigInteger(t).longValue() : names.get(t);
     }
 
     private boolean either() {

@@ -10,19 +10,26 @@ public final class RoomTest {
         for (int i = 0; i < 20; i++) {
             useAll(new RumourRent());
         }
-        RumourRent town = new RumourRent();
-        long before = THREADS.getThreadAllocatedBytes(Thread.currentThread().getId());
-        long idle = THREADS.getThreadAllocatedBytes(Thread.currentThread().getId()) - before;
-        before = THREADS.getThreadAllocatedBytes(Thread.currentThread().getId());
-        useAll(town);
-        long used = THREADS.getThreadAllocatedBytes(Thread.currentThread().getId()) - before - idle;
+        // The least of some tries: what the machine itself makes now and then isn't the calls'.
+        long used = Long.MAX_VALUE;
+        long made = Long.MAX_VALUE;
+        for (int i = 0; i < 5; i++) {
+            long before = allocated();
+            long idle = allocated() - before;
+            before = allocated();
+            RumourRent town = new RumourRent();
+            made = Math.min(made, allocated() - before - idle);
+            before = allocated();
+            useAll(town);
+            used = Math.min(used, allocated() - before - idle);
+        }
         Check.due("bytes that calls make", used, 0);
-        before = THREADS.getThreadAllocatedBytes(Thread.currentThread().getId());
-        RumourRent other = new RumourRent();
-        long made = THREADS.getThreadAllocatedBytes(Thread.currentThread().getId()) - before - idle;
-        sum += other.is(1);
         Check.due("an object takes " + made + " bytes, fewer than 32000", made < 32000, true);
         Check.finish("RoomTest");
+    }
+
+    private static long allocated() {
+        return THREADS.getThreadAllocatedBytes(Thread.currentThread().getId());
     }
 
     private static void put(RumourRent t) {
