@@ -36,7 +36,23 @@ final class Check {
         return town.text();
     }
 
-    /** Houses in a row, one road behind the other. */
+    /** A town on a day; nothing has been told in it yet. */
+    static RumourRent onDay(int day) {
+        RumourRent town = new RumourRent();
+        for (int left = day; left > 0; left -= Math.min(left, 60)) {
+            town.day(Math.min(left, 60));
+        }
+        return town;
+    }
+
+    /** Tells so many rumours that aren't true, with empty purses. */
+    static void rumours(RumourRent town, int count) {
+        for (int i = 0; i < count; i++) {
+            town.rumour(0, 0);
+        }
+    }
+
+    /** A town with roads, of each the two houses that it joins. */
     static RumourRent withRoads(int... ends) {
         RumourRent town = new RumourRent();
         for (int i = 0; i + 1 < ends.length; i += 2) {
