@@ -11,6 +11,7 @@ final class BoundsOfCalls {
         refusedInEmptyTown();
         refusedInFullTown();
         askingChangesNothing();
+        imageOfAll();
         fiveHundredAndTwelve();
     }
 
@@ -145,6 +146,89 @@ final class BoundsOfCalls {
         t.dearest();
         t.richest();
         t.ledger(-1);
+    }
+
+    // A town of which nothing is as in a new one; its latest steps and entries are more than can be kept.
+    private static RumourRent usedTown() {
+        RumourRent t = Check.withRoads(0, 7, 7, 3, 3, 1);
+        t.rumour(1, 90);
+        t.rumour(0, 80);
+        t.rumour(1, 70);
+        for (int h = 0; h < 8; h++) t.rooms(h, 4 - h % 3);
+        Check.read(t, "rent house+number;");
+        Check.read(t, "believes 5-house/7;rent all;");
+        t.by(1);
+        for (int i = 0; i < 16; i++) {
+            t.tell(i & 7, i >> 3);
+            t.day(1);
+        }
+        t.heard(7, 9);
+        t.heard(3, 4);
+        t.pack(3);
+        t.pack(1);
+        t.said(3, 1, 4);
+        t.said(7, 2, 9);
+        return t;
+    }
+
+    private static void useAgain(RumourRent t) {
+        t.road(5, 6);
+        t.rumour(0, 5);
+        t.undo();
+        t.undo();
+        for (int h = 0; h < 8; h++) t.rooms(h, h % 5);
+        Check.read(t, "rent 50;");
+        t.by(2);
+        for (int i = 0; i < 8; i++) t.tell(i, 2);
+        t.gift(1, 9);
+        t.gift(2, 9);
+        t.hush(0, 0);
+        t.day(35);
+        t.years(5, 9);
+        t.heard(-1, 0);
+        t.heard(0, 77);
+        t.heard(1, 7);
+        t.heard(2, 70);
+        t.pack(-1);
+        t.pack(2);
+        t.pack(2);
+        t.pack(4);
+        t.said(-1, 0, 0);
+        t.said(0, 0, 1);
+        t.said(1, 1, 2);
+        t.said(2, 0, 3);
+    }
+
+    private static String wholeBook(RumourRent t) {
+        StringBuilder s = new StringBuilder();
+        for (int i = 0; i < 30; i++) s.append(t.book(i, 0)).append(t.book(i, 1)).append(t.book(i, 2)).append(' ');
+        return s.toString();
+    }
+
+    // What the image holds is seen beside a town like it, of which none was made.
+    private static void imageOfAll() {
+        Sentence s = Sentence.of(51, "AN IMAGE: all as it is, but the tape and the latest FAULT. BACK: all is so again.");
+        RumourRent t = usedTown();
+        RumourRent like = usedTown();
+        s.takes("the day of the image", t.image(), 16);
+        useAgain(t);
+        s.leaves("the day without going back", t.is(0) > 16, true);
+        t.back();
+        s.takes("all that can be seen", seen(t).equals(seen(like)), true);
+        s.takes("the book", wholeBook(t).equals(wholeBook(like)), true);
+        for (int left = 29; left >= 0; left--) s.takes("a step, and " + left + " more", t.undo(), left);
+        for (int i = 0; i < 30; i++) like.undo();
+        s.takes("what the steps give back", seen(t).equals(seen(like)), true);
+        // A rumour told behind going back is another one than that of its number before.
+        RumourRent v = new RumourRent();
+        v.day(1);
+        v.image();
+        v.rumour(0, 30);
+        v.back();
+        v.rumour(1, 40);
+        v.undo();
+        s.takes("a purse as told behind going back", v.ofRumour(0, 1), 40);
+        s.takes("the truth as told then", v.ofRumour(0, 0), 1);
     }
 
     private static void fiveHundredAndTwelve() {

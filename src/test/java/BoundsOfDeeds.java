@@ -434,6 +434,10 @@ final class BoundsOfDeeds {
         Check.read(u, longest.toString());
         number.leaves("the 24th clause", u.played(3), 23);
         number.takes("the 23 ahead of it", u.is(0), 23);
+        RumourRent v = new RumourRent();
+        Check.read(v, "day 1;".repeat(24));
+        number.takes("all of 24 clauses", v.played(0), -1);
+        number.takes("24 days", v.is(0), 24);
     }
 
     private static void stepsAtMost() {

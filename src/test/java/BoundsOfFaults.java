@@ -363,6 +363,15 @@ final class BoundsOfFaults {
         RumourRent t = new RumourRent();
         Check.read(t, "rent 1;rent 1;");
         s.takes("the first of the next text", Check.read(t, "rent 1;"), 0);
+        RumourRent u = new RumourRent();
+        u.rumour(0, 0);
+        for (int i = 0; i < 4; i++) Check.read(u, "day 9;believes 0;rent 1" + times(100, "+1") + ";?");
+        s.takes("a text behind some that weren't", Check.read(u, "rent 1" + times(100, "+1") + "-61;day 1;"), 0);
+        s.takes("its clauses alone", u.played(0), -1);
+        s.takes("its day alone", u.is(0), 1);
+        u.by(0);
+        s.takes("its law alone", u.rent(0, 0), 40);
+        s.takes("no law that it hasn't", u.believes(0, 0), 1);
     }
 
     private static void namesOfClauses() {

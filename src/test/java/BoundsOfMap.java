@@ -153,6 +153,7 @@ final class BoundsOfMap {
         none.takes("4 out", row(7).centre(true), 4);
         s.takes("a star about 7", star(7).centre(false), 7);
         s.takes("1 out", star(7).centre(true), 1);
+        for (int h = 0; h < 7; h++) s.takes("a star about " + h, star(h).centre(false), h);
         s.takes("a ring: all are alike", ring().centre(false), 0);
         s.takes("4 out in a ring", ring().centre(true), 4);
     }
@@ -303,6 +304,7 @@ final class BoundsOfMap {
         // From house 3 hangs a row; of 0, 1, 2 beside one another and 3 beside all: 3! ways and back.
         RumourRent t = Check.withRoads(0, 1, 0, 2, 1, 2, 3, 0, 3, 1, 3, 2, 3, 4, 4, 5, 5, 6, 6, 7);
         s.takes("four all joined and a row", t.rounds(), 12);
+        s.takes("the same asked again", t.rounds(), 12);
     }
 
     private static void block() {

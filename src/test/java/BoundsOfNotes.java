@@ -352,6 +352,15 @@ final class BoundsOfNotes {
         s.leaves("one of two that isn't so", t.whose(), 1 | 2);
         t.said(6, 0, 98);
         s.leaves("any that could say both", t.whose(), 0);
+        RumourRent u = new RumourRent();
+        Check.rumours(u, 4);
+        Check.read(u, "rent 10*house+number;");
+        Check.read(u, "rent 10*house;");
+        u.said(7, 3, 73);
+        s.takes("of house 7 and rumour 3", u.whose(), 1);
+        u.said(-1, 0, 0);
+        u.said(7, 0, 70);
+        s.takes("of house 7 and rumour 0", u.whose(), 3);
     }
 
     private static void whoseAsNow() {

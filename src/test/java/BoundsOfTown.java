@@ -319,8 +319,11 @@ final class BoundsOfTown {
         t.tell(6, 3);
         s.takes("thirty of 31", t.book(-1, 0), 30);
         s.leaves("the first of 31", t.book(0, 0), 1);
-        s.takes("its house", t.book(0, 1), 1);
-        s.takes("the last of 31", t.book(29, 0), 30);
+        for (int i = 0; i < 30; i++) {
+            s.takes("the day of entry " + i, t.book(i, 0), i + 1);
+            s.takes("the house of entry " + i, t.book(i, 1), (i + 1) % 8);
+            s.takes("the rumour of entry " + i, t.book(i, 2), (i + 1) / 8);
+        }
         s.leaves("a 31st place", t.book(30, 0), -2);
         t.tell(7, 3);
         s.takes("thirty of 32", t.book(-1, 0), 30);
@@ -373,6 +376,21 @@ final class BoundsOfTown {
         s.takes("rent of 1 together", t.dearest(), 3);
         t.hush(3, 3);
         s.leaves("rent of 0 together", t.dearest(), -1);
+        // Rumour 0 alone, kept in the first house and in the last.
+        RumourRent u = new RumourRent();
+        Check.rumours(u, 2);
+        u.tell(0, 0);
+        s.takes("the first house", u.dearest(), 0);
+        u.hush(0, 0);
+        u.tell(7, 0);
+        s.takes("the last house", u.dearest(), 0);
+        u.tell(0, 1);
+        u.tell(1, 1);
+        u.tell(0, 0);
+        s.takes("the first and the last together, of like ones", u.dearest(), 0);
+        Check.read(u, "rent number+1/(1+house);");
+        u.by(0);
+        s.takes("2 and 1 of rumour 1, 1 and 0 of rumour 0", u.dearest(), 1);
     }
 
     private static void richest() {

@@ -3,20 +3,19 @@ import java.nio.file.Files;
 import java.nio.file.Path;
 import java.util.ArrayList;
 import java.util.List;
-import java.util.regex.Matcher;
 import java.util.regex.Pattern;
 
 /** A sentence of the document under a promise, with cases on either side of its bound. */
 final class Sentence {
     private static final int PROMISES = 52;
     private static final List<Sentence> TOLD = new ArrayList<>();
-    // A promise that can't be refused, because it takes nothing and always has an answer.
-    private static final Pattern REFUSES = Pattern.compile("others|NONE|-2|none");
+    // What a promise says when it can refuse a call, or have no answer.
+    private static final Pattern REFUSES = Pattern.compile("others|NONE|-2|none|False");
 
     private final int promise;
     private final String words;
     private int taken = 0;
-    private int refused = 0;
+    private int left = 0;
 
     private Sentence(int promise, String words) {
         this.promise = promise;
@@ -41,7 +40,7 @@ final class Sentence {
 
     /** A case that the sentence does not take. */
     void leaves(String what, long got, long due) {
-        refused++;
+        left++;
         Check.due("promise " + promise + ", \"" + words + "\", leaves " + what + ":", got, due);
     }
 
@@ -49,7 +48,7 @@ final class Sentence {
         leaves(what, got ? 1 : 0, due ? 1 : 0);
     }
 
-    /** Holds what was quoted against the document: the words stand there, and none of it is left out. */
+    /** Holds the quotations against the document: they stand in it, and all of it is quoted. */
     static void compareWithDocument() throws IOException {
         for (Sentence sentence : TOLD) {
             Check.due("\"" + sentence.words + "\" has a case that it takes", sentence.taken > 0, true);
@@ -59,74 +58,69 @@ final class Sentence {
             System.out.println("no document at " + path + ": the quotations are not compared");
             return;
         }
-        String whole = Files.readString(path).replaceAll("(?m)^(```.*|#.*)$", "\n").replaceAll("(?m)^  ", "");
-        String document = whole.replaceAll("\\s+", " ");
-        String terms = between(Files.readString(path), "## Terms", "The constants:");
-        boolean[] quoted = new boolean[document.length()];
+        String document = Files.readString(path);
+        String opening = between(document, "## What it is", "## The public face");
+        String terms = between(document, "## Terms", "The constants:");
         for (Sentence sentence : TOLD) {
-            sentence.mark(document, quoted);
+            String own = promised(document, sentence.promise);
+            boolean stands = (opening + terms + own).contains(sentence.words);
+            Check.due("\"" + sentence.words + "\" stands in the terms or under promise " + sentence.promise, stands, true);
         }
-        for (String piece : pieces(terms)) {
-            Check.due("of the terms, \"" + piece + "\" is quoted", isQuoted(document, quoted, piece), true);
-        }
+        quoteAll("the terms", terms.replaceAll("==== [IV]+\\.", ""), 0);
         for (int promise = 1; promise <= PROMISES; promise++) {
-            comparePromise(promise, between(Files.readString(path), "## Promise " + promise + ":", "## "), document, quoted);
+            comparePromise(promise, promised(document, promise));
         }
     }
 
-    private static void comparePromise(int promise, String text, String document, boolean[] quoted) {
+    private static void comparePromise(int promise, String text) {
         int taken = 0;
-        int refused = 0;
+        int left = 0;
         for (Sentence sentence : TOLD) {
             if (sentence.promise == promise) {
                 taken += sentence.taken;
-                refused += sentence.refused;
+                left += sentence.left;
             }
         }
-        String sayings = text.replaceFirst("^[^`]*`[^`]*`: ", "");
         Check.due("promise " + promise + " has a case that it takes", taken > 0, true);
-        if (REFUSES.matcher(sayings).find()) {
-            Check.due("promise " + promise + " has a case that it doesn't take", refused > 0, true);
+        if (REFUSES.matcher(text).find()) {
+            Check.due("promise " + promise + " has a case that it doesn't take", left > 0, true);
         }
-        for (String piece : pieces(sayings)) {
-            Check.due("of promise " + promise + ", \"" + piece + "\" is quoted", isQuoted(document, quoted, piece), true);
+        quoteAll("promise " + promise, text, promise);
+    }
+
+    // Each word must be in a quotation; those of a promise may be under that promise alone.
+    private static void quoteAll(String where, String text, int promise) {
+        boolean[] quoted = new boolean[text.length()];
+        for (Sentence sentence : TOLD) {
+            if (promise == 0 || sentence.promise == promise) sentence.mark(text, quoted);
+        }
+        int start = 0;
+        for (int i = 0; i <= text.length(); i++) {
+            boolean open = i < text.length() && !quoted[i];
+            if (!open) {
+                String rest = text.substring(start, i);
+                boolean saysSomething = rest.chars().anyMatch(Character::isLetterOrDigit);
+                if (saysSomething) Check.due("of " + where + ", \"" + rest + "\" is quoted", false, true);
+                start = i + 1;
+            }
         }
     }
 
-    private void mark(String document, boolean[] quoted) {
-        int found = 0;
-        for (int at = document.indexOf(words); at >= 0; at = document.indexOf(words, at + 1)) {
-            found++;
+    private void mark(String text, boolean[] quoted) {
+        for (int at = text.indexOf(words); at >= 0; at = text.indexOf(words, at + 1)) {
             for (int i = 0; i < words.length(); i++) quoted[at + i] = true;
         }
-        Check.due("\"" + words + "\" stands in the document", found > 0, true);
     }
 
-    // Each part up to a full stop or a semicolon; the dots of "0 .. 7" end nothing.
-    private static List<String> pieces(String text) {
-        List<String> pieces = new ArrayList<>();
-        Matcher m = Pattern.compile("(?:[^.;]|(?<=[ .])\\.|(?<= );)+[.;)]*").matcher(text);
-        while (m.find()) {
-            String piece = m.group().trim();
-            boolean isHeading = piece.startsWith("====");
-            if (!isHeading && piece.chars().anyMatch(Character::isLetter)) pieces.add(piece);
-        }
-        return pieces;
-    }
-
-    private static boolean isQuoted(String document, boolean[] quoted, String piece) {
-        for (int at = document.indexOf(piece); at >= 0; at = document.indexOf(piece, at + 1)) {
-            for (int i = 0; i < piece.length(); i++) {
-                if (quoted[at + i]) return true;
-            }
-        }
-        return false;
+    // What is said under a promise, without the head of its call.
+    private static String promised(String document, int promise) {
+        return between(document, "## Promise " + promise + ":", "\n## ").replaceFirst("^[^`]*`[^`]*`: ", "");
     }
 
     private static String between(String document, String from, String to) {
         int start = document.indexOf(from) + from.length();
         int end = document.indexOf(to, start);
         String part = document.substring(start, end < 0 ? document.length() : end);
-        return part.replaceAll("(?m)^(```.*|#.*)$", "\n").replaceAll("\\s+", " ").trim();
+        return part.replaceAll("(?m)^```.*$", " ").replaceAll("\\s+", " ").trim();
     }
 }
