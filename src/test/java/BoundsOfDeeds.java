@@ -629,6 +629,10 @@ final class BoundsOfDeeds {
         for (int i = 0; i < 40; i++) x = (x * 631 + 497) % 30881;
         s.takes("forty times", t.years(9999, 40) >= 0, true);
         s.takes("X behind forty", t.is(1), x);
+        s.leaves("SEED below 0", t.years(-1, 40), -1);
+        s.leaves("SEED 10000", t.years(10000, 40), -1);
+        s.leaves("no time", t.years(9999, 0), -1);
+        s.leaves("41 times", t.years(9999, 41), -1);
         Sentence others = Sentence.of(15, "YEARS: DAY. NONE for others.");
         int day = t.is(0);
         for (int w : new int[] {-1, 10000, LOW, HIGH}) others.leaves("SEED " + w, t.years(w, 1), -1);
@@ -671,6 +675,10 @@ final class BoundsOfDeeds {
         Check.rumours(w, 1);
         w.years(seed, 2);
         zero.takes("x mod 6 = 0", w.ofRumour(0, 2), 1 << secondX(seed) / 6 % 8);
+        RumourRent other = new RumourRent();
+        Check.rumours(other, 1);
+        other.years(seed(3, 2), 2);
+        zero.leaves("x mod 6 = 2", other.book(-1, 0), 0);
     }
 
     // X by a SEED is odd, and so is x mod 6 of the first x: what is even comes second.

@@ -149,6 +149,7 @@ final class BoundsOfMap {
         none.leaves("one house apart", row(6).centre(false), -1);
         none.leaves("one house apart, how far", row(6).centre(true), -1);
         none.leaves("house 0 apart", Check.withRoads(1, 2, 2, 3, 3, 4, 4, 5, 5, 6, 6, 7).centre(false), -1);
+        s.leaves("a star that one house is not of", Check.withRoads(0, 1, 0, 2, 0, 3, 0, 4, 0, 5, 0, 6).centre(false), -1);
         none.takes("a row: 3 and 4 are alike", row(7).centre(false), 3);
         none.takes("4 out", row(7).centre(true), 4);
         s.takes("a star about 7", star(7).centre(false), 7);
@@ -164,6 +165,7 @@ final class BoundsOfMap {
         none.leaves("no road", new RumourRent().wide(), -1);
         none.leaves("one house apart", row(6).wide(), -1);
         none.leaves("house 0 apart", Check.withRoads(1, 2, 2, 3, 3, 4, 4, 5, 5, 6, 6, 7).wide(), -1);
+        s.leaves("a star that one house is not of", Check.withRoads(0, 1, 0, 2, 0, 3, 0, 4, 0, 5, 0, 6).wide(), -1);
         none.takes("a row", row(7).wide(), 7);
         s.takes("a star", star(0).wide(), 2);
         s.takes("a ring", ring().wide(), 4);
@@ -182,6 +184,7 @@ final class BoundsOfMap {
         }
         t.road(7, 0);
         s.takes("a road within a part", t.parts(), 1);
+        s.leaves("the only house that can't be come to", row(6).parts(), 2);
         s.takes("twelve roads", sixBetween().parts(), 1);
         s.takes("ten roads among five", allJoined(5).parts(), 4);
         s.takes("four pairs", Check.withRoads(0, 4, 1, 5, 2, 6, 3, 7).parts(), 4);
@@ -267,6 +270,7 @@ final class BoundsOfMap {
         for (int h = 0; h < 8; h++) {
             s.takes("2 that bind house 1, house " + h, t.colour(2, h), two[h]);
             s.takes("3 that don't, house " + h, t.colour(3, h), three[h]);
+            s.leaves("1, which is too few, house " + h, t.colour(1, h), -2);
         }
     }
 
@@ -291,6 +295,9 @@ final class BoundsOfMap {
         RumourRent v = Check.withRoads(0, 1, 0, 2, 2, 3, 3, 4, 4, 5, 5, 6, 6, 1, 1, 7);
         int[] later = {0, 2, 3, 4, 5, 6, 1, 7};
         for (int i = 0; i < 8; i++) s.takes("the lowest next that goes on, place " + i, v.round(i), later[i]);
+        // Three houses that are beside one other house each can't all be ends.
+        RumourRent w = Check.withRoads(0, 1, 1, 2, 2, 3, 3, 4, 4, 5, 5, 6, 1, 7);
+        for (int i = 0; i < 8; i++) s.leaves("a row with a house beside it, place " + i, w.round(i), -2);
     }
 
     private static void rounds() {

@@ -106,6 +106,7 @@ final class BoundsOfNotes {
         s.takes("the lower one of -7 and -6", t.since(0), -7);
         s.takes("the lower one of -2 and -1", t.since(5), -2);
         s.takes("the lower one of -1 and 0", t.since(6), -1);
+        s.leaves("a DAY below 0 on which it was heard", t.heard(7, -1), -2);
     }
 
     private static void sinceOfOthers() {

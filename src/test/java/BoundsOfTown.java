@@ -398,6 +398,7 @@ final class BoundsOfTown {
         Sentence s = Sentence.of(48, "RICHEST: the HOUSE of most INCOME (above 0); of like ones the lowest; none.");
         Sentence none = Sentence.of(48, "RICHEST. NONE: none.");
         none.leaves("incomes of 0", t.richest(), -1);
+        s.leaves("none: no income above 0", t.richest(), -1);
         t.rumour(0, 1);
         t.tell(7, 0);
         none.leaves("incomes of 0 ahead of a day", t.richest(), -1);

@@ -11,6 +11,8 @@ final class Sentence {
     private static final List<Sentence> TOLD = new ArrayList<>();
     // What a promise says when it can refuse a call, or have no answer.
     private static final Pattern REFUSES = Pattern.compile("others|NONE|-2|none|False");
+    // What a sentence says when it names a bound.
+    private static final Pattern BOUNDS = Pattern.compile("others|NONE|-2|-100|none|False|at most|at least|up to| \\.\\. |above|below|beyond|no way");
 
     private final int promise;
     private final String words;
@@ -52,6 +54,9 @@ final class Sentence {
     static void compareWithDocument() throws IOException {
         for (Sentence sentence : TOLD) {
             Check.due("\"" + sentence.words + "\" has a case that it takes", sentence.taken > 0, true);
+            if (BOUNDS.matcher(sentence.words).find()) {
+                Check.due("\"" + sentence.words + "\" has a case that it doesn't take", sentence.left > 0, true);
+            }
         }
         Path path = Path.of(System.getProperty("project.root", "."), "../shared/DOC.md");
         if (!Files.exists(path)) {
