@@ -26,6 +26,8 @@ public final class ReadmeTest {
         Pattern.compile("(?:(int|long|boolean) (\\w+) = )?(.*\\));\\s*// (-?\\d+|true|false|NONE)\\b.*");
     private static final Pattern ROW = Pattern.compile("\\| `(\\w+)\\(([^)]*)\\)` \\|([^|]*)\\|([^|]*)\\|([^|]*)\\|");
     private static final Pattern ANSWER = Pattern.compile("`([^`]+\\))` is `([^`]+)`");
+    private static final Pattern CLAUSE = Pattern.compile("\\| `([^`|]+;)` \\|");
+    private static final Pattern SUM = Pattern.compile("\\| `([^`|]+)` \\|[^|]*\\| `(-?\\d+)` \\|");
     private static final Pattern REFUSAL = Pattern.compile("`(NONE|-2|-100|false)`: .*");
 
     private static final StringBuilder PROGRAM = new StringBuilder();
@@ -46,6 +48,8 @@ public final class ReadmeTest {
         }
         PROGRAM.append("}\n}\n");
         runShown();
+        readClauses(page);
+        judgeSums(page);
         compareWithDocument(page);
         Check.finish("ReadmeTest");
     }
@@ -136,6 +140,31 @@ public final class ReadmeTest {
             loader.loadClass("Shown").getMethod("run", BiConsumer.class).invoke(null, told);
         }
         Check.due("answers that are shown", count[0], SHOWN_ANSWERS.size());
+    }
+
+    private static void readClauses(String page) {
+        Set<String> kinds = new TreeSet<>();
+        Matcher clause = CLAUSE.matcher(page);
+        while (clause.find()) {
+            kinds.add(clause.group(1).split(" ")[0]);
+            Check.due("README.md, " + clause.group(1) + " is read:", Check.read(new RumourRent(), clause.group(1)), 0);
+        }
+        Check.due("kinds of clauses that are shown", kinds.size(), 8);
+    }
+
+    private static void judgeSums(String page) {
+        int found = 0;
+        Matcher sum = SUM.matcher(page);
+        while (sum.find()) {
+            RumourRent town = Check.withRoads(0, 1);
+            town.rumour(1, 50);
+            town.tell(0, 0);
+            town.by(Check.read(town, "believes " + sum.group(1) + ";"));
+            Check.due("README.md, " + sum.group(1) + " is read:", town.fault(0), 0);
+            Check.due("README.md, " + sum.group(1) + ":", town.believes(1, 0), Integer.parseInt(sum.group(2)));
+            found++;
+        }
+        Check.due("sums that are shown", found > 0, true);
     }
 
     // Every call of the face has one row, with the document's names, and refuses by what its promise says.
